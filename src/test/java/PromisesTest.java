@@ -417,6 +417,21 @@ public final class PromisesTest {
         four.layer(1, 0, 2, 1, 2);
         due.equal("like much at 0 / 1", four.less(), -1);
         due.isFalse("like much at 0 / 1 alone", four.same());
+        unlikeEdges(1, 2, 1, 1);
+        unlikeEdges(2, 1, 4, 1);
+        unlikeEdges(1, 1, 1, 2);
+        unlikeEdges(2, 1, 1, 1);
+    }
+
+    /** Edges other than 1 and 2, of which one is twice the other: like much goes back at every turn. */
+    private void unlikeEdges(int airUp, int airBelow, int groundUp, int groundBelow) {
+        GlassStack x = new GlassStack();
+        x.edge(0, 1, 2, 1);
+        x.edge(1, 0, airUp, airBelow);
+        x.edge(1, 1, groundUp, groundBelow);
+        back(x, 0, 1, 9);
+        back(x, 1, 1, 9);
+        due.isFalse("same() with unlike edges", x.same());
     }
 
     private void list() {
@@ -448,6 +463,31 @@ public final class PromisesTest {
         layers(x, 0, 311, 311, 311);
     }
 
+    /** Again nothing goes back where the second index is twice the first. */
+    private void chooseInOrder() {
+        GlassStack x = new GlassStack();
+        x.edge(1, 1, 4, 1);
+        x.list(4, 1);
+        x.list(2, 1);
+        x.list(1, 1);
+        due.equal("choose(1, 2)", x.choose(1, 2), 9);
+        layers(x, 1, 211, 411);
+        due.equal("choose(1, 2) again", x.choose(1, 2), 9);
+        layers(x, 1, 211, 411);
+        x.unlist();
+        x.list(3, 2);
+        x.list(9, 1);
+        x.list(3, 1);
+        due.equal("choose(1, 2)", x.choose(1, 2), 9);
+        layers(x, 1, 321, 311);
+        x.unlist();
+        x.list(9, 1);
+        x.list(8, 1);
+        x.list(2, 1);
+        due.equal("choose(1, 3)", x.choose(1, 3), 27);
+        layers(x, 1, 911, 911, 211);
+    }
+
     private void choose() {
         GlassStack x = withLayers(912, 813);
         x.edge(0, 1, 4, 1);
@@ -469,6 +509,7 @@ public final class PromisesTest {
         back(x, 0, 0, 1);
         due.equal("choose(0, 3)", x.choose(0, 3), 64);
         layers(x, 1);
+        chooseInOrder();
         x.light(1, 1);
         due.equal("choose(1, 3), all alike", x.choose(1, 3), 64);
         layers(x, 1, 311, 311, 311);
