@@ -1,5 +1,10 @@
 /** Counts the answers that are not the ones due, and prints each of them. */
 final class Due {
+    static final String TAKEN = "0";
+    static final String OUT_OF_BOUNDS = "throws.IndexOutOfBoundsException";
+    static final String ILLEGAL = "throws.IllegalArgumentException";
+    static final String NO_SUCH = "throws.NoSuchElementException";
+
     interface Call {
         long answer();
     }
@@ -10,20 +15,29 @@ final class Due {
 
     private int looked = 0;
     private int wrong = 0;
+    private int sentences = 0;
+    private String heading = "";
+
+    /** A test of one sentence of the document, whose words stand ahead of every wrong answer. */
+    void sentence(String words, Deed test) {
+        int lookedBefore = looked;
+        sentences++;
+        heading = "\"" + words + "\": ";
+        String end = outcome(test);
+        equal("the test itself", end, TAKEN);
+        isTrue("the test looks at an answer", looked > lookedBefore + 1);
+        heading = "";
+    }
 
     void equal(String call, long got, long want) {
-        looked++;
-        if (got != want) {
-            wrong++;
-            System.out.println(call + " answered " + got + ", due is " + want);
-        }
+        equal(call, Long.toString(got), Long.toString(want));
     }
 
     void equal(String call, String got, String want) {
         looked++;
         if (!got.equals(want)) {
             wrong++;
-            System.out.println(call + " answered " + got + ", due is " + want);
+            System.out.println(heading + call + " answered " + got + ", due is " + want);
         }
     }
 
@@ -36,19 +50,19 @@ final class Due {
     }
 
     void outOfBounds(String call, Deed deed) {
-        equal(call, outcome(deed), "throws.IndexOutOfBoundsException");
+        equal(call, outcome(deed), OUT_OF_BOUNDS);
     }
 
     void illegal(String call, Deed deed) {
-        equal(call, outcome(deed), "throws.IllegalArgumentException");
+        equal(call, outcome(deed), ILLEGAL);
     }
 
     void noSuch(String call, Deed deed) {
-        equal(call, outcome(deed), "throws.NoSuchElementException");
+        equal(call, outcome(deed), NO_SUCH);
     }
 
     void nothing(String call, Deed deed) {
-        equal(call, outcome(deed), "0");
+        equal(call, outcome(deed), TAKEN);
     }
 
     static String outcome(Deed deed) {
@@ -58,6 +72,7 @@ final class Due {
         });
     }
 
+    /** The exception's own class, not one above it: the machine's ArrayIndexOutOfBoundsException is another. */
     static String outcome(Call call) {
         try {
             return Long.toString(call.answer());
@@ -67,7 +82,8 @@ final class Due {
     }
 
     void end() {
-        System.out.println(looked + " answers looked at, " + wrong + " not as due");
+        String told = sentences > 0 ? sentences + " sentences, " : "";
+        System.out.println(told + looked + " answers looked at, " + wrong + " not as due");
         if (wrong != 0) {
             System.exit(1);
         }

@@ -1,4 +1,7 @@
-/** The longest fractions that can come, all 40 parts of each, held against the Oracle's. */
+/**
+ * The longest fractions that can come, all 40 parts of each, held against the Oracle's; a new object
+ * for each question, since only the first 512 calls are promised.
+ */
 public final class LargestTest {
     private static final int[][] LIGHTS = {{0, 1}, {1, 25}, {-24, 25}, {12, 23}, {25, 25}, {-11, 24}, {7, 9}};
     private static final int[][] STACKS = {
@@ -37,13 +40,18 @@ public final class LargestTest {
         }
     }
 
-    private void stack(int number, int width) {
+    private void light(int number, int width, int u, int v) {
         build(STACKS[number], width);
+        x.light(u, v);
+        o.light(u, v);
+    }
+
+    private void stack(int number, int width) {
         for (int[] light : LIGHTS) {
-            x.light(light[0], light[1]);
-            o.light(light[0], light[1]);
             String name = "of stack " + number + ", width " + width + ", at " + light[0] + " / " + light[1];
+            light(number, width, light[0], light[1]);
             tell(name, false);
+            light(number, width, light[0], light[1]);
             tell(name, true);
             for (int entry = 0; entry < 4; entry++) {
                 due.equal("sign " + entry + name, x.sign(0, entry), o.sign(0, entry));
@@ -63,6 +71,8 @@ public final class LargestTest {
 
     private void panes() {
         for (int[] pane : PANES) {
+            x = new GlassStack();
+            o = new Oracle();
             for (int i = 0; i < 8; i++) {
                 int[] p = i % 3 == 2 ? PANES[1] : pane;
                 due.equal("pane", x.pane(p[0], p[1], p[2], p[3]), o.pane(p[0], p[1], p[2], p[3]));

@@ -1,56 +1,5 @@
 /** The document's promises one by one: ordinary inputs, the edges that it names, and wrong inputs. */
-public final class PromisesTest {
-    private static final int LEAST = Integer.MIN_VALUE;
-    private static final int MOST = Integer.MAX_VALUE;
-    private static final int[] NO_STACKS = {LEAST, -2, -1, 2, 3, MOST};
-
-    private final Due due = new Due();
-
-    private void back(GlassStack x, int stack, int up, int below) {
-        due.equal("upper of back(" + stack + ")", x.back(stack, false, 0), up);
-        due.equal("lower of back(" + stack + ")", x.back(stack, true, 0), below);
-    }
-
-    private void on(GlassStack x, int stack, int up, int below) {
-        due.equal("upper of on(" + stack + ")", x.on(stack, false, 0), up);
-        due.equal("lower of on(" + stack + ")", x.on(stack, true, 0), below);
-    }
-
-    private void entry(GlassStack x, int entry, int sign, int up, int below) {
-        due.equal("sign(0, " + entry + ")", x.sign(0, entry), sign);
-        due.equal("upper of entry(0, " + entry + ")", x.entry(0, entry, false, 0), up);
-        due.equal("lower of entry(0, " + entry + ")", x.entry(0, entry, true, 0), below);
-    }
-
-    private void share(GlassStack x, int what, int up, int below) {
-        due.equal("upper of share(" + what + ")", x.share(what, false, 0), up);
-        due.equal("lower of share(" + what + ")", x.share(what, true, 0), below);
-    }
-
-    private void edges(GlassStack x, int stack, int airUp, int airBelow, int groundUp, int groundBelow) {
-        due.equal("about(" + stack + ", -2, 0)", x.about(stack, -2, 0), airUp);
-        due.equal("about(" + stack + ", -2, 1)", x.about(stack, -2, 1), airBelow);
-        due.equal("about(" + stack + ", -3, 0)", x.about(stack, -3, 0), groundUp);
-        due.equal("about(" + stack + ", -3, 1)", x.about(stack, -3, 1), groundBelow);
-    }
-
-    /** The layers as numbers of three digits: upper part, lower part, width. */
-    private void layers(GlassStack x, int stack, int... want) {
-        due.equal("about(" + stack + ", -1, 0)", x.about(stack, -1, 0), want.length);
-        for (int i = 0; i < want.length && i < x.about(stack, -1, 0); i++) {
-            int got = 100 * x.about(stack, i, 0) + 10 * x.about(stack, i, 1) + x.about(stack, i, 2);
-            due.equal("layer " + i + " of stack " + stack, got, want[i]);
-        }
-    }
-
-    private static GlassStack withLayers(int... layers) {
-        GlassStack x = new GlassStack();
-        for (int layer : layers) {
-            x.layer(0, x.about(0, -1, 0), layer / 100, layer / 10 % 10, layer % 10);
-        }
-        return x;
-    }
-
+public final class PromisesTest extends Checks {
     private void newObject() {
         GlassStack x = new GlassStack();
         due.equal("NONE", GlassStack.NONE, -1);
@@ -568,12 +517,6 @@ public final class PromisesTest {
             x.pane(0, 1, 1, 1);
         }
         due.equal("clear() of eight", x.clear(), 8);
-    }
-
-    private void shares(GlassStack x, int... want) {
-        for (int what = 0; what < 4; what++) {
-            share(x, what, want[2 * what], want[2 * what + 1]);
-        }
     }
 
     private void share() {
