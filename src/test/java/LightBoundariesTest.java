@@ -99,6 +99,25 @@ public final class LightBoundariesTest extends Checks {
         due.isTrue("parts below 2 to the power of 1,200", below.compareTo(TWO.pow(1200)) < 0);
     }
 
+    /** What a long fraction leaves in the rows may not show in a short one. */
+    private void shortBehindLong() {
+        GlassStack x = at(12, 25, 684, 754, 594, 854, 594, 964);
+        x.edge(0, 1, 9, 7);
+        add(x, 1, 112);
+        due.isTrue("back is long", x.back(0, false, 8) != 0);
+        x.back(0, true, 0);
+        x.light(-1, 1);
+        fraction("B, -2", (below, k) -> x.entry(1, 1, below, k), 2, 1);
+        x.light(12, 25);
+        x.back(0, true, 0);
+        x.light(0, 1);
+        fraction("A, -1", (below, k) -> x.entry(1, 0, below, k), 1, 1);
+        x.light(12, 25);
+        x.back(0, false, 0);
+        fraction("back, 0", (below, k) -> x.back(1, below, k), 0, 1);
+        fraction("O", (below, k) -> x.share(2, below, k), 1, 1);
+    }
+
     private void backParts() {
         for (int stack = 0; stack < 2; stack++) {
             GlassStack x = new GlassStack();
@@ -255,17 +274,29 @@ public final class LightBoundariesTest extends Checks {
         due.equal("turned", x.less(), 1);
         x.copy(0);
         due.equal("copied", x.less(), -1);
-        x.edge(0, 1, 9, 8);
-        x.edge(1, 1, 9, 7);
-        Oracle o = new Oracle();
-        int[] row = {191, 911, 191, 911, 191, 911};
-        for (int i = 0; i < 6; i++) {
-            o.layer(0, i, row[i] / 100, row[i] / 10 % 10, 1);
-            o.layer(1, i, row[i] / 100, row[i] / 10 % 10, 1);
-        }
-        o.edge(0, 1, 9, 8);
-        o.edge(1, 1, 9, 7);
-        due.equal("another ground", x.less(), o.less());
+        x.drop(1, 0);
+        x.layer(1, 0, 1, 8, 1);
+        due.equal("now the second has 1/8 for a 1/9", x.less(), 1);
+        x.copy(1);
+        x.drop(0, 0);
+        x.layer(0, 0, 1, 7, 1);
+        due.equal("the first has 1/7 for an 1/8", x.less(), 0);
+    }
+
+    private void zeroOrOne() {
+        // 1/25 and 1/49 go back.
+        GlassStack x = new GlassStack();
+        x.edge(0, 1, 3, 2);
+        x.edge(1, 1, 4, 3);
+        due.equal("1/25 and 1/49", x.less(), 1);
+        x.edge(0, 1, 4, 3);
+        x.edge(1, 1, 3, 2);
+        due.equal("1/49 and 1/25", x.less(), 0);
+        x.edge(0, 1, 1, 1);
+        due.equal("0 and 1/25", x.less(), 0);
+        x.edge(1, 1, 1, 1);
+        x.edge(0, 1, 9, 1);
+        due.equal("16/25 and 0", x.less(), 1);
     }
 
     private void extremeLights() {
@@ -342,14 +373,27 @@ public final class LightBoundariesTest extends Checks {
     }
 
     private void likeBackUnlikeEdges() {
+        // Without layers a and g send back what any two with the same ratio do, either way round:
+        // unlike in the air's upper or lower part alone, in the ground's, in two of them, in all.
+        unlike(1, 1, 2, 1, 4, 1, 2, 1);
+        unlike(1, 1, 1, 2, 1, 4, 1, 2);
+        unlike(2, 1, 1, 1, 2, 1, 4, 1);
+        unlike(1, 2, 1, 1, 1, 2, 1, 4);
+        unlike(1, 1, 2, 1, 2, 1, 1, 1);
+        unlike(1, 1, 2, 1, 2, 1, 4, 1);
+        unlike(1, 1, 2, 1, 1, 2, 1, 1);
+        unlike(2, 3, 4, 5, 5, 4, 3, 2);
+    }
+
+    private void unlike(int... edges) {
         GlassStack x = new GlassStack();
-        x.edge(0, 1, 2, 1);
-        x.edge(1, 0, 2, 1);
-        back(x, 0, 1, 9);
-        back(x, 1, 1, 9);
-        due.isFalse("changed edges", x.same());
-        x.turn(1);
-        due.isTrue("turned", x.same());
+        for (int i = 0; i < 4; i++) {
+            x.edge(i / 2, i % 2, edges[2 * i], edges[2 * i + 1]);
+        }
+        due.equal("less()", x.less(), -1);
+        due.isFalse("same() with unlike edges", x.same());
+        x.copy(0);
+        due.isTrue("same() with like edges", x.same());
     }
 
     private void sameAtEachCosine() {
@@ -403,6 +447,7 @@ public final class LightBoundariesTest extends Checks {
         due.sentence("1. SAME: and BACK is at each cosine j / 49, j from -49 to 49.", this::sameAtEachCosine);
         due.sentence("2. in lowest terms, the lower part above 0", this::lowestTerms);
         due.sentence("2. by parts of 30 bits: part k is bits 30 k on", this::thirtyBits);
+        due.sentence("2. FRACTIONS are told in lowest terms (a short one behind a long one)", this::shortBehindLong);
         due.sentence("2. have parts below 2 to the power of 1,200", this::longestFractions);
     }
 
@@ -416,7 +461,8 @@ public final class LightBoundariesTest extends Checks {
         due.sentence("12: below 0 (-1), 0, above (1) (by little)", this::signsOfTheSmallest);
         due.sentence("12: IllegalArgumentException: another entry.", this::signNumbers);
         due.sentence("14: NONE: like much.", this::lessOfLike);
-        due.sentence("14: Which STACK sends less BACK (by little)", this::lessByLittle);
+        due.sentence("14: Which STACK sends less BACK: 0, 1", this::zeroOrOne);
+        due.sentence("14: Which STACK sends less BACK: 0, 1 (by little)", this::lessByLittle);
         due.sentence("15: The least u from - v to v", this::extremeAtBothEnds);
         due.sentence("15: The least u at which BACK is least (of like ones)", this::extremeOfLikeOnes);
         due.sentence("15: (THE LIGHT stays.)", this::extremeLeavesTheLight);
